@@ -862,6 +862,8 @@ public final class UnevenTap {
         private static final int MOST_LAWS = 8, MOST_OPEN = 4, MOST_DIGITS = 4;
         // A part is one of these, or the sign (or other byte) that it is.
         private static final int END = 256, WORD = 257, NUMBER = 258;
+        // The levels of an E: what is compared binds least, a ONE most.
+        private static final int COMPARED = 0, SUM = 1, TERM = 2, ONE = 3;
         private static final String KEYS = "flow pull goes left ";
         private static final String NAMES = "weight sway speed tick since drops knob ";
 
@@ -916,38 +918,27 @@ public final class UnevenTap {
             }
             draft.tellAnew(key);
             goToNext();
-            if (!tellsE(0) || part != ';') {
+            if (!tellsJoined(COMPARED, 0) || part != ';') {
                 return false;
             }
             goToNext();
             return true;
         }
 
-        // An E comes again within its own brackets; open counts those and the signs ahead of a ONE.
-        private boolean tellsE(int open) {
-            if (!tellsSum(open)) {
+        // E, SUM and TERM are built alike, of the level below and the signs of their own; so one
+        // method serves them all, and comes again within brackets, which open counts.
+        private boolean tellsJoined(int level, int open) {
+            if (level == ONE) {
+                return tellsOne(open);
+            }
+            if (!tellsJoined(level + 1, open)) {
                 return false;
             }
-            if (part != '<' && part != '=' && part != '>') {
-                return true;
-            }
-            int sign = part;
-            goToNext();
-            if (!tellsSum(open)) {
-                return false;
-            }
-            draft.add(key, Laws.SIGN + sign);
-            return true;
-        }
-
-        private boolean tellsSum(int open) {
-            if (!tellsTerm(open)) {
-                return false;
-            }
-            for (int i = 0; i < MOST && (part == '+' || part == '-'); i++) {
+            int most = level == COMPARED ? 1 : MOST;
+            for (int i = 0; i < most && levelOf(part) == level; i++) {
                 int sign = part;
                 goToNext();
-                if (!tellsTerm(open)) {
+                if (!tellsJoined(level + 1, open)) {
                     return false;
                 }
                 draft.add(key, Laws.SIGN + sign);
@@ -955,19 +946,22 @@ public final class UnevenTap {
             return true;
         }
 
-        private boolean tellsTerm(int open) {
-            if (!tellsOne(open)) {
-                return false;
+        private static int levelOf(int sign) {
+            switch (sign) {
+                case '<':
+                case '=':
+                case '>':
+                    return COMPARED;
+                case '+':
+                case '-':
+                    return SUM;
+                case '*':
+                case '/':
+                case '%':
+                    return TERM;
+                default:
+                    return ONE;
             }
-            for (int i = 0; i < MOST && (part == '*' || part == '/' || part == '%'); i++) {
-                int sign = part;
-                goToNext();
-                if (!tellsOne(open)) {
-                    return false;
-                }
-                draft.add(key, Laws.SIGN + sign);
-            }
-            return true;
         }
 
         private boolean tellsOne(int open) {
@@ -1019,7 +1013,7 @@ public final class UnevenTap {
 
         private boolean tellsBracket(int open) {
             goToNext();
-            if (!tellsE(open) || part != ')') {
+            if (!tellsJoined(COMPARED, open) || part != ')') {
                 return false;
             }
             goToNext();
