@@ -258,6 +258,17 @@ public final class PromisesTest {
         // -7 * 1103515245 + 12345 wraps to 865340222; its upper half by 11 leaves 4; less 5 that is -1
         due("tap(2)", t.tap(2), 9999);
         due("seed(0)", t.seed(0), 865340222);
+        t.begin(0, 0, 0);
+        t.set(1, 99);
+        t.run(1);
+        // from 0 z is 12345, of which the upper half is 0
+        due("the least of a shake", t.tap(2), 10000 - 99);
+        t.set(1, 3);
+        t.seed(1);
+        t.begin(0, 0, 0);
+        t.run(1);
+        // 16838 by 7 leaves 3
+        due("by twice the shake and 1", t.tap(2), 10000);
     }
 
     private static void run() {
@@ -301,6 +312,15 @@ public final class PromisesTest {
         t.run(1);
         due("speed is held to 999, sway then too", t.tap(1), 10999);
         due("speed is 0 then", t.tap(2), 10000);
+        t.begin(0, -900, 998);
+        t.run(1);
+        due("speed is held to 999", t.tap(2), 10999);
+        due("sway goes by the held speed", t.tap(1), 10099);
+        t = under("flow 0 ; pull 9999 ; goes 0 ;");
+        t.begin(0, 950, -998);
+        t.run(1);
+        due("speed is held to -999", t.tap(2), 9001);
+        due("sway goes by the held speed", t.tap(1), 9951);
         t = under("flow tick ; goes 0 ;");
         t.run(3);
         due("flow sees the tick already", t.tap(0), 6);
@@ -327,6 +347,11 @@ public final class PromisesTest {
         due("whatever isn't 0 goes", t.run(2), 2);
         due("left is held to 0", t.tap(0), 0);
         due("a time", t.time(0), 1);
+        t = under("pull 0 ; goes since = 3 ;");
+        t.run(9);
+        due("since begins anew with each drop", t.many(0), 3);
+        due("since begins anew with each drop", t.time(2), 3);
+        due("since", t.tap(4), 0);
     }
 
     private static void tap() {
@@ -444,6 +469,11 @@ public final class PromisesTest {
         dueRead(t, "flow 1 12345 ;", -107);
         dueRead(t, "flow weigh ;", -105);
         dueRead(t, "flow weights ;", -105);
+        dueRead(t, "flow weightz ;", -105);
+        dueRead(t, "flow aweight ;", -105);
+        dueRead(t, "flow weight{ ;", -111);
+        dueRead(t, "flow weight` ;", -111);
+        dueRead(t, "flow 1: ;", -106);
         dueRead(t, "flow Weight ;", -105);
         dueRead(t, "flow weiGht ;", -105);
         dueRead(t, "flow 1 & 2 ;", -107);
@@ -583,6 +613,8 @@ public final class PromisesTest {
         due("order()", withRow(4, 6, 4, 6, 4).order(), 1);
         due("the last one has nothing behind", withRow(4, 6, 4).order(), 1);
         due("order()", withRow(1, 1, 2, 1, 1, 2, 1).order(), 2);
+        due("order()", withRow(1, 1, 2).order(), 2);
+        due("order()", withRow(3, 3, 3, 3).order(), 1);
         due("order()", withRow(1, 2, 3, 1, 2, 4).order(), 3);
         due("order()", withRow(5, 1, 2, 3, 6, 1, 2, 3, 7).order(), 4);
         due("order()", withRow(5, 9, 1, 2, 3, 6, 9, 1, 2, 3, 7).order(), 0);
@@ -637,6 +669,7 @@ public final class PromisesTest {
         due("0 is above the line", withRow(5, 1, 5, 9).rule(0, 0), 0);
         due("and 1 below it", withRow(5, 1, 5, 5, 9).rule(0, 1), 1);
         due("no such twos", withRow(1, 2, 3).rule(0, 0), -3);
+        due("the first two alone", withRow(4, 4, 4).rule(0, 0), 1);
         due("the last has nothing behind", withRow(1, 2, 1).rule(0, 0), -3);
         due("rule of none", withRow().rule(9999, 1), -3);
         due("rule(-1, 0)", withRow().rule(-1, 0), -1);
@@ -656,6 +689,7 @@ public final class PromisesTest {
         due("drift(-1)", t.drift(-1), -3);
         due("cut towards 0", withRow(17, 30, 5, 10).drift(1), 20000 + 13 + 2);
         due("drift(0) of one", withRow(5).drift(0), -3);
+        due("drift(1) of two", withRow(5, 9).drift(1), 20000);
         due("drift(0) of none", withRow().drift(0), -3);
     }
 
@@ -668,6 +702,11 @@ public final class PromisesTest {
         due("span(3)", t.span(3), -1);
         due("span(-1)", t.span(-1), -1);
         due("span(0) of none", withRow().span(0), -3);
+        for (int what = 0; what < 3; what++) {
+            due("span(" + what + ") of one", withRow(7).span(what), 7);
+            due("span(" + what + ") of two", withRow(3, 9).span(what), what == 0 ? 3 : what == 1 ? 9 : 12);
+            due("span(" + what + ") of two", withRow(9, 3).span(what), what == 0 ? 3 : what == 1 ? 9 : 12);
+        }
         due("span(3) of none", withRow().span(3), -1);
     }
 
@@ -762,6 +801,7 @@ public final class PromisesTest {
         due("nothing changes", t.tap(2), 10000 - 26);
         due("touch(0)", t.touch(0), -1);
         due("touch(401)", t.touch(401), -1);
+        due("touch(1)", t.touch(1), -3);
         t = evenIf("speed < - 29");
         due("the least one", t.touch(400), 70);
         t = evenIf("( speed = 3 ) + ( speed = - 3 )");
@@ -800,6 +840,17 @@ public final class PromisesTest {
         t = under("flow 0 ; pull 0 ; goes since > 2 + ( weight > 10 ) * ( drops > 58 ) ; left weight ;");
         t.begin(5, 0, 0);
         due("the 60th is seen", t.lost(6), 59);
+        t = under("flow 0 ; pull 0 ; goes since > 2 + ( weight > 10 ) ; left weight ;");
+        t.begin(5, 0, 0);
+        due("the first place", t.lost(6), 0);
+        t.grid(3);
+        due("each trial goes on from the tap as it is", t.lost(5), -3);
+        t.run(2);
+        due("since goes on", t.lost(6), 0);
+        due("since goes on", t.lost(5), -3);
+        t = under("flow 0 ; pull 0 ; goes since > 2 + ( weight > 9999 ) ; left weight ;");
+        t.begin(9999, 0, 0);
+        due("weight may be more than begin() takes", t.lost(1), 0);
     }
 
     // ---- rows
@@ -819,6 +870,10 @@ public final class PromisesTest {
         due("prove(1)", t.prove(1), 1);
         due("many(2)", t.many(2), 1);
         due("nothing changes", t.tap(3) + t.many(0), 0);
+        t.run(2);
+        t.grid(0);
+        t.prove(1);
+        due("a trial goes on from the tap, not from another trial", t.row(0, 1), 43);
         t = under("flow 1 ; pull 0 ; goes since = 100 ;");
         due("as many as come", t.prove(12), 4);
         t = under("goes 0 ;");
@@ -876,6 +931,7 @@ public final class PromisesTest {
         t.alterRow(2, 1, 50);
         due("judge()", t.judge(), 0);
         t.run(4);
+        due("judge() again", t.judge(), 0);
         due("the same drops are still ahead", t.judge(), 0);
         t.run(1);
         due("the first one, 43, is gone", t.judge(), 1);
@@ -883,6 +939,16 @@ public final class PromisesTest {
         t.prove(12);
         t.run(100);
         due("one fewer comes", t.judge(), 3);
+        t = under("flow 0 ; pull 0 ; goes since = 400 ;");
+        t.run(1);
+        due("prove(1)", t.prove(1), 1);
+        t.begin(0, 0, 0);
+        due("its 400th tick counts", t.judge(), 0);
+        t = under("flow 0 ; pull 0 ; goes since = 401 ;");
+        t.run(1);
+        due("prove(1)", t.prove(1), 1);
+        t.begin(0, 0, 0);
+        due("a 401st doesn't", t.judge(), 1);
     }
 
     // ---- records
@@ -1109,6 +1175,15 @@ public final class PromisesTest {
         t.shelf(0, 0, 0);
         due("ints wrap", t.act(0, 0, Integer.MAX_VALUE), Integer.MIN_VALUE + 4);
         due("cut towards 0", t.act(0, 2, -9), -1);
+        t.shelf(0, 0, 2);
+        due("grows of fours, a's bit is there already", t.act(0, 0, 0), 80 ^ 16);
+        due("parts of fours by 14: 1 more", t.act(0, 2, 13), 1);
+        due("parts of fours by 14: 1 more", t.act(0, 2, 12), 0);
+        UnevenTap other = withRow(7, 1, 9, 2);
+        other.record();
+        other.shelf(0, 0, 0);
+        due("parts of muddled by 4: 1 less", other.act(0, 2, 8), 1);
+        due("parts of muddled by 4: 1 less", other.act(0, 2, 9), 2);
         feedText(t, "goes 6 ;");
         t.read();
         t.shelf(1, 1, 2);
@@ -1141,8 +1216,6 @@ public final class PromisesTest {
         }
         t.shelf(0, 0, 5);
         due("tells of twos: its parts by 2", t.act(0, 3, 1), ((1 + 7) * 5 * 2 ^ 5) + 5 / 2);
-        t.again();
-        tellAll(t, 3);
         t = withRow(3);
         t.record();
         t.record();
