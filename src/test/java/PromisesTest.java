@@ -72,26 +72,15 @@ public final class PromisesTest {
 
     // ---- helpers
 
-    private static void feedText(UnevenTap t, String text) {
-        for (int i = 0; i < text.length(); i += 8) {
-            int n = Math.min(8, text.length() - i);
-            long eight = 0;
-            for (int k = n - 1; k >= 0; k--) {
-                eight = eight << 8 | text.charAt(i + k);
-            }
-            t.feed(eight, n);
-        }
-    }
-
     private static void dueRead(UnevenTap t, String text, int want) {
-        feedText(t, text);
+        Edges.feedText(t, text);
         due("read() of '" + text + "'", t.read(), want);
     }
 
     /** A tap under laws that are right. */
     private static UnevenTap under(String laws) {
         UnevenTap t = new UnevenTap();
-        feedText(t, laws);
+        Edges.feedText(t, laws);
         if (t.read() < 0) {
             throw new IllegalArgumentException(laws);
         }
@@ -812,7 +801,7 @@ public final class PromisesTest {
         due("three drops are even", t.touch(9), 105);
         due("two are not", t.touch(8), -3);
         t.begin(0, 0, 999);
-        feedText(t, "flow ( tick = 1 ) * ( speed > 1028 ) ; pull 0 ; goes since > 2 + ( weight = 0 ) * ( drops % 3 ) ; left weight ;");
+        Edges.feedText(t, "flow ( tick = 1 ) * ( speed > 1028 ) ; pull 0 ; goes since > 2 + ( weight = 0 ) * ( drops % 3 ) ; left weight ;");
         t.read();
         due("what is added isn't held ahead of the tick", t.touch(400), 130);
     }
@@ -1184,14 +1173,14 @@ public final class PromisesTest {
         other.shelf(0, 0, 0);
         due("parts of muddled by 4: 1 less", other.act(0, 2, 8), 1);
         due("parts of muddled by 4: 1 less", other.act(0, 2, 9), 2);
-        feedText(t, "goes 6 ;");
+        Edges.feedText(t, "goes 6 ;");
         t.read();
         t.shelf(1, 1, 2);
         due("grows of a law", t.act(1, 0, 1), 5);
         due("swings of a law", t.act(1, 1, 1), 10);
         due("parts of a law", t.act(1, 2, 3), 2);
         due("tells of a law", t.act(1, 3, 1), 8);
-        feedText(t, "goes 9 ;");
+        Edges.feedText(t, "goes 9 ;");
         t.read();
         due("what its E is now", t.act(1, 0, 1), 8);
         t.sheet(0, 0, 3);
@@ -1267,7 +1256,7 @@ public final class PromisesTest {
     private static void many() {
         promise = 42;
         UnevenTap t = withRecords();
-        feedText(t, "flow 1 ; left 2 ; flow 3 ;");
+        Edges.feedText(t, "flow 1 ; left 2 ; flow 3 ;");
         t.read();
         t.tell(3);
         t.prove(4);
