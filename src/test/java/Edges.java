@@ -21,6 +21,12 @@ final class Edges {
     private static final Set<String> TELLING = Set.of("act", "seed");
     private static final Map<String, Method> METHODS = new HashMap<>();
 
+    static {
+        for (Method m : UnevenTap.class.getDeclaredMethods()) {
+            METHODS.put(m.getName(), m);
+        }
+    }
+
     private final List<String> ahead;
     private int asked;
     private int wrong;
@@ -28,9 +34,6 @@ final class Edges {
     /** Each run begins with the steps told here. */
     Edges(String... ahead) {
         this.ahead = List.of(ahead);
-        for (Method m : UnevenTap.class.getDeclaredMethods()) {
-            METHODS.put(m.getName(), m);
-        }
     }
 
     /** One run. */
@@ -77,7 +80,8 @@ final class Edges {
         }
     }
 
-    private static UnevenTap after(List<String> steps) {
+    /** A new object behind these steps; what is due of them isn't looked at. */
+    static UnevenTap after(List<String> steps) {
         UnevenTap t = new UnevenTap();
         for (String step : steps) {
             new Step(step).takeOn(t);

@@ -209,6 +209,8 @@ public final class TermsEdgesTest {
         edge("pull sees the WEIGHT that is more", "laws flow 5 ; pull weight ; goes 0 ;", "run(1)", "tap(2) 9995");
         edge("pull sees SPEED and SWAY as they were", "laws flow 0 ; pull speed + sway ; goes 0 ;", "begin(0, 2, 7)", "run(1)",
                 "tap(2) 9998");
+        edge("pull sees SPEED ahead of the shake", "laws flow 0 ; pull speed ; goes 0 ;", "set(1, 1)", "seed(1)", "begin(0, 0, 5)",
+                "run(1)", "tap(2) 10001");
         edge("goes sees SWAY and SPEED that are held", "laws flow 0 ; pull 0 ; goes ( sway = 999 ) * ( speed = 0 ) ;",
                 "begin(0, 999, 9)", "run(1) 1");
         edge("left sees DROPS, SINCE, SWAY, SPEED ahead of the drop",
@@ -245,6 +247,8 @@ public final class TermsEdgesTest {
         reads("8 at most", "flow 1;pull 2;goes 3;left 4;flow 5;pull 6;goes 7;left 8;", 4);
         reads("the KEY of the ninth", "flow 1;flow 2;flow 3;flow 4;flow 5;flow 6;flow 7;flow 8;flow 9;", -156);
         reads("the KEY of the ninth", "flow 1;flow 2;flow 3;flow 4;flow 5;flow 6;flow 7;flow 8; left", -157);
+        edge("one TEXT behind the other", "begin(101, 40, 0)", "150 x laws left 3 ;", "says(0) 10", "says(1) 10", "says(2) 1",
+                "says(3) 3", "50 x read()", "says(0) 10", "says(1) 10", "says(2) 1", "says(3) 60", "many(5) 0");
         edge("of one told twice the last counts", "text goes 5;flow 1;goes 6;", "read() 2", "says(2) 6", "many(5) 2");
     }
 
