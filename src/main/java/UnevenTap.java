@@ -692,20 +692,20 @@ public final class UnevenTap {
             fallTimes.add(latestTime);
         }
 
-        /** By the place of the name in Text.NAMES. */
+        /** Names are numbered by their places in Text.NAMES. */
         int named(int name) {
             switch (name) {
                 case Laws.WEIGHT:
                     return weight;
                 case Laws.SWAY:
                     return sway;
-                case 2:
+                case Laws.SPEED:
                     return speed;
-                case 3:
+                case Laws.TICK:
                     return ticks;
-                case 4:
+                case Laws.SINCE:
                     return since;
-                case 5:
+                case Laws.DROPS:
                     return drops;
                 case Laws.KNOB:
                     return knob;
@@ -721,7 +721,7 @@ public final class UnevenTap {
      */
     private static final class Laws {
         static final int FLOW = 0, PULL = 1, GOES = 2, LEFT = 3, KEYS = 4;
-        static final int WEIGHT = 0, SWAY = 1, KNOB = 6;
+        static final int WEIGHT = 0, SWAY = 1, SPEED = 2, TICK = 3, SINCE = 4, DROPS = 5, KNOB = 6;
         static final int NAME = 10000, SIGN = 20000, NEGATE = SIGN + '~';
 
         private static final int[] FIRST_FLOW = {NAME + KNOB};
