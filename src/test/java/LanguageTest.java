@@ -4,6 +4,7 @@ import com.sun.source.tree.ClassTree;
 import com.sun.source.tree.CompilationUnitTree;
 import com.sun.source.tree.MethodInvocationTree;
 import com.sun.source.tree.MethodTree;
+import com.sun.source.tree.NewArrayTree;
 import com.sun.source.tree.NewClassTree;
 import com.sun.source.tree.Tree;
 import com.sun.source.tree.VariableTree;
@@ -141,8 +142,21 @@ public final class LanguageTest extends TreePathScanner<Void, Void> {
     @Override
     public Void visitNewClass(NewClassTree t, Void v) {
         must(t.getClassBody() == null, 2, "a class without a name");
+        mustBeMadeAtFirst(t);
         called(trees.getElement(getCurrentPath()));
         return super.visitNewClass(t, v);
+    }
+
+    @Override
+    public Void visitNewArray(NewArrayTree t, Void v) {
+        mustBeMadeAtFirst(t);
+        return super.visitNewArray(t, v);
+    }
+
+    /** All calls of a run share one room, so this program makes nothing but in constructors. */
+    private void mustBeMadeAtFirst(Tree t) {
+        Element caller = caller();
+        must(caller == null || caller.getKind() == ElementKind.CONSTRUCTOR, 12, t + " is made by a call");
     }
 
     @Override
